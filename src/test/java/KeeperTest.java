@@ -156,6 +156,15 @@ public final class KeeperTest {
         room.hours(1);
         checks.same("a lamp of 10.5 goes out", room.issue(1), 0);
         lowLampOfOwnClass();
+        wornBelowNine();
+    }
+
+    private void wornBelowNine() {
+        LampRoom room = Rooms.with(Rooms.kinds(0), 0);
+        Rooms.turns(room, 0, 10);
+        checks.same("a full lamp of less than 9.0", room.chargeOf(0), Rooms.worn(12.0, 10));
+        checks.badState("a full lamp of less than 9.0 stays", () -> room.issue(0));
+        checks.same("it is not ready", room.ready(0), 0);
     }
 
     private void lowLampOfOwnClass() {
