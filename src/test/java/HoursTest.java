@@ -252,14 +252,19 @@ public final class HoursTest {
         checks.same("alarms at 0.0", Answers.alarms(room), "0 1");
     }
 
+    // 0.02 is the least charge above 0.0 that a lamp can come to.
     private void notDarkWithLittle() {
-        LampRoom room = Rooms.with(Rooms.kinds(2), 2);
-        Rooms.turns(room, 0, 5);
+        LampRoom room = Rooms.pair(1);
+        Rooms.turns(room, 0, 1);
+        Rooms.turnOf(room, 0, 3);
+        room.hours(1);
+        checks.same("chargeOf, from 12.52", room.chargeOf(0), 16.0 * 0.97 - 3.0 + 2.5);
         room.issue(0);
-        room.hours(17);
-        checks.same("0.17 is left", room.chargeOf(0) > 0.1 && room.chargeOf(0) < 0.2, true);
-        checks.same("alarms at 0.17", Answers.alarms(room), "0");
+        room.hours(15);
+        checks.same("0.02 is left", room.chargeOf(0) > 0.01 && room.chargeOf(0) < 0.03, true);
+        checks.same("alarms at 0.02", Answers.alarms(room), "0");
         checks.same("the next hour", room.hours(1), 1);
+        checks.same("alarms at 0.0", Answers.alarms(room), "0 1");
     }
 
     private void darkAheadOfLate() {

@@ -10,6 +10,7 @@ public final class IssueTest {
         checks.sentence("Issues a lamp; the tally goes on the board. Returns the lamp.", this::lampAndTally);
         checks.sentence("it is one of the rack", this::oneOfTheRack);
         checks.sentence("with a charge of 9.0 or more", this::nineOrMore);
+        checks.sentence("with a charge of 9.0 or more", this::justBelowNine);
         checks.sentence("with a charge of 9.0 or more", this::fullBelowNine);
         checks.sentence("of the class of the miner", this::ownClassFirst);
         checks.sentence("the one with the greatest charge", this::greatestCharge);
@@ -65,6 +66,20 @@ public final class IssueTest {
         checks.badState("issue at 8.0", () -> room.issue(0));
         room.hours(1);
         checks.same("issue at 10.5", room.issue(0), 0);
+    }
+
+    // 8.9957 is the greatest charge below 9.0 that a lamp can come to.
+    private void justBelowNine() {
+        LampRoom room = Rooms.pair(0);
+        Rooms.turns(room, 0, 6);
+        Rooms.turnOf(room, 0, 1);
+        checks.same("chargeOf", room.chargeOf(0), Rooms.worn(12.0, 6) - 1.0);
+        checks.same("8.9957 is left", room.chargeOf(0) > 8.995 && room.chargeOf(0) < 9.0, true);
+        checks.same("ready at 8.9957", room.ready(0), 0);
+        checks.badState("issue at 8.9957", () -> room.issue(0));
+        room.hours(1);
+        checks.same("ready at 9.6958", room.ready(0), 1);
+        checks.same("issue at 9.6958", room.issue(0), 0);
     }
 
     private void fullBelowNine() {
